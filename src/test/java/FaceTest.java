@@ -91,7 +91,8 @@ public final class FaceTest {
         for (Class<?> c : inside) {
             due(c.getName() + " is static", Modifier.isStatic(c.getModifiers()), true);
             due(c.getName() + " is seen inside alone", c.getModifiers() & (Modifier.PUBLIC | Modifier.PROTECTED), 0);
-            long fields = Arrays.stream(c.getDeclaredFields()).filter(f -> !Modifier.isStatic(f.getModifiers())).count();
+            Field[] declared = c.getDeclaredFields();
+            long fields = Arrays.stream(declared).filter(f -> !Modifier.isStatic(f.getModifiers())).count();
             due(c.getName() + " has few fields", fields <= 20, true);
             for (Method m : c.getDeclaredMethods()) {
                 due(m.getName() + " takes few parameters", m.getParameterCount() <= 7, true);

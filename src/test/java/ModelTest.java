@@ -129,6 +129,11 @@ public final class ModelTest {
             typeText(random, calls);
         } else if (dice < 70) {
             calls.add(new Call("lengthens", random.nextInt(31)));
+        } else if (dice < 71) {
+            calls.add(new Call("begins"));
+            layOut(random, calls);
+        } else if (dice < 74 && model.world.t == 0) {
+            calls.add(new Call("node", 4, random.nextInt(8), random.nextInt(8), 0));
         } else if (dice < 90) {
             look(random, model, calls);
         } else if (wild || random.nextInt(10) == 0) {

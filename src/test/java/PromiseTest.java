@@ -19,6 +19,7 @@ public final class PromiseTest {
     public static void main(String[] args) {
         newObject();
         begins();
+        beginsLeavesNothing();
         node();
         nodeOrderOfRefusals();
         lengthens();
@@ -50,6 +51,7 @@ public final class PromiseTest {
         doesFaults();
         doesPassesOver();
         back();
+        backToOtherNodes();
         told();
         digest();
         System.out.println(wrong == 0 ? "all promises hold" : wrong + " answers are not as due");
@@ -160,6 +162,34 @@ public final class PromiseTest {
         y.begins();
         due("back", y.back(), 1);
         due("T as it was", y.count(1), 9);
+    }
+
+    // What NODES of the same numbers had before must not shine through.
+    private static void beginsLeavesNothing() {
+        promise = "promise 2";
+        BarrierStreams x = net(FAST_IN_1);
+        x.marks();
+        x.steps(8);
+        due("WHOLE, with a RECORD", x.count(6), 5);
+        x.begins();
+        due("a net like it", doText(x, FAST_IN_1), 7);
+        x.fails();
+        due("LETTERS", x.count(9), 0);
+        due("POSITION", x.of(1, 4), 0);
+        x = net("n0 1-0;n3 0-0;n4 0 1 0;n4 2 2 0;n5 3-0;s9;m;s30;");
+        due("WHOLE", x.count(3), 1);
+        x.begins();
+        due("a net like it", doText(x, "n0 1-0;n3 0-0;n4 0 1 0;n4 2 2 0;n5 3-0;"), 5);
+        due("a third JOIN", x.node(JOIN, 0, 0, 0), FULL);
+        x.steps(3);
+        x.fails();
+        due("sum", x.sum(1, 0), 0);
+        due("numbers", x.count(6), 0);
+        due("POSITION", x.of(0, 4), 0);
+        x.marks();
+        x.steps(9);
+        due("WHOLE", x.count(3), 1);
+        due("one POSITION and no sum", x.count(6), 1);
     }
 
     private static void node() {
@@ -871,7 +901,8 @@ public final class PromiseTest {
         due("ALIGNED", x.count(5), 0);
         due("nothing counts", x.told(0) + x.told(1) + x.told(2), 0);
         x = new BarrierStreams();
-        due("9 NODES", doText(x, "n0 1-0;n4 0 0 0;n4 1 1 0;n4 0 0 0;n0 1-0;n0 1-0;n0 1-0;n0 1-0;n5 7-0;n5 0-0;n5 0-0;"), 8);
+        String tooMany = "n0 1-0;n4 0 0 0;n4 1 1 0;n4 0 0 0;n0 1-0;n0 1-0;n0 1-0;n0 1-0;n5 7-0;n5 0-0;n5 0-0;";
+        due("too many JOINS and NODES", doText(x, tooMany), 8);
         due("nodes", x.count(0), 8);
         due("NONE where a number is due", doText(x, "n1--0;n4 0-0;n0---;l3;"), 1);
     }
@@ -928,6 +959,41 @@ public final class PromiseTest {
         due("a STATE in the place of one taken back", z.told(4), 3);
         due("back", z.back(), 2);
         due("failures", z.count(7), 0);
+    }
+
+    private static void backToOtherNodes() {
+        promise = "promise 17";
+        BarrierStreams x = net(FAST_IN_1);
+        x.marks();
+        x.steps(7);
+        x.steps(1);
+        x.begins();
+        due("another net", doText(x, "n0 9-9;n1 0-3;n5 0-0;n4 1 0 0;n4 0 3 0;"), 5);
+        x.clear();
+        due("back", x.back(), 4);
+        due("back", x.back(), 3);
+        due("b", x.of(2, 2), 1);
+        x.fails();
+        dueRow("the RECORD of the old net", letters(x, 2, 1), 68, 78, 90);
+        x.back();
+        due("back", x.back(), 2);
+        due("under way", x.count(4), 1);
+        x.fails();
+        due("a RECORD that is not WHOLE yet", x.count(9), 0);
+        due("POSITION", x.of(0, 4), 0);
+        x = net("n0 1-0;n4 0 0 0;");
+        x.node(JOIN, 1, 1, 0);
+        due("a third JOIN", x.node(JOIN, 1, 1, 0), FULL);
+        x.back();
+        due("the second one again", x.node(JOIN, 0, 1, 0), 2);
+        due("b", x.of(2, 2), 1);
+        x.begins();
+        x.node(SOURCE, 9, NONE, 8);
+        x.back();
+        x.back();
+        due("PERIOD", x.of(0, 1), 1);
+        due("K", x.of(0, 3), 0);
+        due("a third JOIN", x.node(JOIN, 1, 1, 0), FULL);
     }
 
     private static void told() {
