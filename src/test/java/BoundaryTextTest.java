@@ -10,6 +10,10 @@ public final class BoundaryTextTest {
 
     // The last WHOLE SNAPSHOT has a RECORD and sums; another one is under way, and the JOIN RECORDS.
     private static final String RICH = "n0 2-0;n0 1-50;n4 0 1 0;n3 2-0;n5 3-0;l30;a0;s6;m;s8;s5;m;s2;";
+    // IN 0 of the JOIN is BLOCKED and has LETTERS, one SOURCE has to MARK yet.
+    private static final String BLOCKED = "n0 1-0;n0 9-0;n4 0 1 0;n5 2-0;n5 0-0;s10;m;s5;";
+    // The next STEP makes the SNAPSHOT WHOLE, and 20 ITEMS LOST.
+    private static final String LOST = "n0 1-0;n4 0 0 0;n4 1 1 0;n5 2-0;l30;s60;s60;s60;m;s2;";
 
     public static void main(String[] args) throws IOException, IllegalAccessException {
         Sentence.runAll(BoundaryTextTest.class, 14, 19);
@@ -288,23 +292,18 @@ public final class BoundaryTextTest {
     }
 
     static void backHoldsAll() {
-        Sentence.of(17, "A STATE back: how many can be yet. NO: none.");
-        Probe none = new Probe();
-        none.refuses(NO, "back");
-        none.refuses(NO, "back");
-        none.ask("marks");
-        none.due(0, "back");
-        none.refuses(NO, "back");
-        none.due(3, "told", 1);
+        Sentence.of(17, "to go back to (all but THE TEXT and how often refused)");
         String[] changes = {"s1;", "f;", "s60;", "f;m;s9;", "l3;f;a1;s60;m;s60;f;"};
-        for (String change : changes) {
-            Probe x = Probe.net(RICH);
-            x.ask("clear");
-            x.type(change);
-            Probe without = x.again();
-            x.ask("does");
-            x.due(1, "back");
-            x.dueSameAs(without, change + " and back");
+        for (String net : new String[] {RICH, BLOCKED, LOST}) {
+            for (String change : changes) {
+                Probe x = Probe.net(net);
+                x.ask("clear");
+                x.type(change);
+                Probe without = x.again();
+                x.ask("does");
+                x.due(1, "back");
+                x.dueSameAs(without, change + " and back");
+            }
         }
         Probe anew = Probe.net(RICH);
         Probe without = anew.again();
@@ -316,6 +315,34 @@ public final class BoundaryTextTest {
             anew.due(left, "back");
         }
         anew.dueSameAs(without, "begins and back");
+    }
+
+    // The nets must be as their comments say, or the tests that go back to them would show little.
+    static void netsToGoBackTo() {
+        Sentence.of(17, "A STATE back");
+        Probe rich = Probe.net(RICH);
+        rich.due(1, "count", 3);
+        rich.due(1, "of", 2, 8);
+        rich.due(1, "count", 4);
+        Probe blocked = Probe.net(BLOCKED);
+        blocked.due(0, "of", 2, 7);
+        blocked.due(1, "of", 1, 5);
+        Sentence.due("LETTERS wait", blocked.letters(2, 0).size() > 1, true);
+        Probe lost = Probe.net(LOST);
+        lost.due(0, "count", 8);
+        lost.due(183, "steps", 1);
+        lost.due(20, "count", 8);
+    }
+
+    static void backWithoutAny() {
+        Sentence.of(17, "A STATE back: how many can be yet. NO: none.");
+        Probe none = new Probe();
+        none.refuses(NO, "back");
+        none.refuses(NO, "back");
+        none.ask("marks");
+        none.due(0, "back");
+        none.refuses(NO, "back");
+        none.due(3, "told", 1);
     }
 
     // ---- refusals

@@ -166,6 +166,15 @@ public final class BoundaryWorksTest {
         least.dueRow(2, OPEN, 0, 0);
     }
 
+    static void eachInHasItsOwnChannel() {
+        Sentence.of(6, "For each IN there is a CHANNEL from that NODE");
+        Probe x = Probe.net("n0 1-0;n0 1-50;n4 0 1 0;n4 1 0 0;s2;");
+        x.dueLetters(2, 0, 4);
+        x.dueLetters(2, 1, 54);
+        x.dueLetters(3, 0, 54);
+        x.dueLetters(3, 1, 4);
+    }
+
     static void outsPerhapsNone() {
         Sentence.of(6, "OUTS of a NODE: all CHANNELS from it, perhaps none.");
         Probe none = Probe.net("n0 1-0;n1 0-0;s1;");
@@ -611,6 +620,24 @@ public final class BoundaryWorksTest {
         inZero.due(0, "of", 2, 8);
     }
 
+    // 100 is a multiple of 10 and of 4: only an ITEM may be kept back, added to or summed up.
+    static void othersSendTheBarrier() {
+        Sentence.of(6, "any other: THE BARRIER is SENT, its PART is WHOLE");
+        Probe x = Probe.net("n0 1-1;n2 0-10;n1 1-99;n3 2-0;n4 3 3 0;n5 4-0;n0 9-0;s1;");
+        x.due(6, "sum", 3, 2);
+        x.does(2, "m;s1;");
+        x.dueLetters(4, 0, BARRIER);
+        x.dueLetters(4, 1, BARRIER);
+        for (int n = 1; n <= 3; n++) {
+            x.due(1, "of", n, 9);
+        }
+        x.due(0, "sum", 3, 0);
+        x.due(6, "sum", 3, 2);
+        x.ask("steps", 2);
+        x.dueRow(5, PENDING, 6, 6);
+        x.dueRow(5, OPEN);
+    }
+
     static void partOfTotals() {
         Sentence.of(6, "of TOTALS those of its sums that are other than in the last WHOLE SNAPSHOT (than 0, if there is"
             + " none), else nothing");
@@ -659,6 +686,10 @@ public final class BoundaryWorksTest {
         missing.due(1, "count", 3);
         missing.due(0, "count", 4);
         missing.due(10, "count", 1);
+        Probe firstMissing = Probe.net("n0 9-0;n0 1-0;s1;m;s8;");
+        firstMissing.due(0, "count", 3);
+        firstMissing.ask("steps", 1);
+        firstMissing.due(1, "count", 3);
     }
 
     static void outputHasNeverMoreThan100() {
@@ -826,10 +857,12 @@ public final class BoundaryWorksTest {
         x.dueLetters(3, 1, 69, 11, 55, 1, 49, 99);
         x.dueLetters(2, 0, 50, 4, 60, 18, 78);
         x.ask("aligns", 1);
-        x.does(3, "m;s60;f;");
-        x.due(2, "count", 3);
-        x.due(0, "count", 9);
-        x.due(2, "count", 6);
+        for (int whole = 2; whole <= 3; whole++) {
+            x.does(3, "m;s60;f;");
+            x.due(whole, "count", 3);
+            x.due(0, "count", 9);
+            x.due(2, "count", 6);
+        }
     }
 
     static void failureLeaves() {
@@ -873,7 +906,8 @@ public final class BoundaryWorksTest {
 
     static void beginsAnew() {
         Sentence.of(2, "All anew, as at first (STATES, THE TEXT, how often refused stay): how many NODES there were. S.");
-        Probe x = Probe.net("n0 1-0;n4 0 0 0;n4 1 1 0;n5 2-0;n3 0-0;n0 1-0;n0 1-0;n0 1-0;a0;l30;s60;m;s60;f;m;s1;");
+        Probe x = Probe.net("n0 1-0;n4 0 0 0;n4 1 1 0;n5 2-0;n3 0-0;n0 1-0;n0 1-0;n0 1-0;a0;l30;s60;s60;s60;m;s60;f;m;s1;");
+        x.due(20, "count", 8);
         x.due(BAD, "count", 10);
         x.due(NO, "marks");
         x.due(1, "told", 4);
@@ -881,7 +915,7 @@ public final class BoundaryWorksTest {
         x.due(2, "told", 4);
         x.due(1, "told", 0);
         x.due(1, "told", 1);
-        x.due(84, "told", 3);
+        x.due(92, "told", 3);
         int[] counts = {0, 0, 20, 0, 0, 1, 0, 0, 0, 0};
         for (int what = 0; what < 10; what++) {
             x.due(counts[what], "count", what);
@@ -897,7 +931,40 @@ public final class BoundaryWorksTest {
             x.due(states, "back");
         }
         x.due(8, "count", 0);
-        x.due(121, "count", 1);
+        x.due(241, "count", 1);
+    }
+
+    // The ADDER has the number of a JOIN whose RECORDS were PARTS of both SNAPSHOTS.
+    static void beginsForgetsParts() {
+        Sentence.of(2, "All anew, as at first");
+        Probe x = Probe.net(WAITING + "a0;m;s8;m;s12;");
+        x.due(2, "count", 3);
+        x.due(7, "count", 6);
+        x.ask("begins");
+        x.does(4, "n0 1-0;n0 1-0;n1 0-0;n5 2-0;");
+        x.does(2, "s3;f;");
+        x.due(0, "count", 6);
+        x.due(0, "count", 9);
+        x.due(0, "of", 0, 4);
+        x.does(4, "s3;m;s1;f;");
+        x.due(1, "count", 3);
+        x.due(2, "count", 6);
+        x.due(0, "count", 9);
+        x.due(3, "of", 0, 4);
+    }
+
+    static void newNodesNumber() {
+        Sentence.of(3, "A new NODE: its number.");
+        Probe x = new Probe();
+        x.due(BAD, "node", SINK, 0, NONE, 0);
+        x.due(0, "node", SOURCE, 1, NONE, 0);
+        x.due(BAD, "node", SINK, 1, NONE, 0);
+        x.due(1, "node", SINK, 0, NONE, 0);
+        x.due(2, "node", SINK, 0, NONE, 0);
+        x.ask("back");
+        x.due(2, "node", SOURCE, 1, NONE, 0);
+        x.ask("begins");
+        x.due(0, "node", SOURCE, 1, NONE, 0);
     }
 
     static void nodeNumbers() {

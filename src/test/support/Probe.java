@@ -98,14 +98,15 @@ final class Probe {
         dueSameAs(without, words(name, p));
     }
 
-    /** Nothing is other than in the other object, but how often refused: now, by going on and by each way back. */
+    /** Nothing but how often refused is other than in the other object: now, by each way back and by each way on. */
     void dueSameAs(Probe other, String by) {
         int states = other.again().tell("told", 4);
         for (int back = 0; back <= states; back++) {
             Sentence.due("all, " + back + " STATES back, by " + by, again().gone(back).all(),
                 other.again().gone(back).all());
         }
-        Sentence.due("all by going on by " + by, again().goneOn().all(), other.again().goneOn().all());
+        Sentence.due("all, going on after " + by, again().goneOn().all(), other.again().goneOn().all());
+        Sentence.due("all, failing after " + by, again().failed().all(), other.again().failed().all());
     }
 
     /** A new object with the same calls. */
@@ -124,9 +125,14 @@ final class Probe {
         return this;
     }
 
-    // A failure shows what the last WHOLE SNAPSHOT holds, and the STEPS show what is kept within the NODES.
+    // The SNAPSHOT under way becomes WHOLE, if it can; the failure shows what its PARTS hold.
     private Probe goneOn() {
-        ask("steps", 5);
+        ask("steps", 40);
+        ask("fails");
+        return this;
+    }
+
+    private Probe failed() {
         ask("fails");
         ask("steps", 2);
         ask("marks");
