@@ -844,6 +844,36 @@ public final class BoundaryWorksTest {
         x.dueLetters(3, 1, LONG_RECORD_ITEMS);
     }
 
+    // Each failure gives the JOIN what was on its way to it, and more comes behind: all that is not yet put out of the
+    // 60 ITEMS (each of the 30 twice) is one RECORD in the end.
+    static void aRecordOf45() {
+        Sentence.of(8, "holds that RECORD's ITEMS in their order (perhaps more than 6)");
+        int[] sent = {
+            3, 7, 13, 21, 31, 43, 57, 73, 91, 11, 33, 57, 83, 11, 41, 73, 7, 43, 81, 21, 63, 7, 53, 1, 51, 3, 57, 13, 71, 31
+        };
+        int[] record = new int[45];
+        for (int i = 0; i < record.length; i++) {
+            record[i] = sent[(15 + i) / 2];
+        }
+        Probe x = Probe.net("n0 1-0;n0 2-50;n4 0 0 0;n1 2-1;n1 3-1;n1 4-1;n4 1 5 0;n5 6-0;a0;l30;");
+        x.does(19, "s6;m;s60;f;s8;m;s60;s60;f;s10;m;s60;s60;f;s6;m;s60;s60;f;");
+        x.due(4, "count", 3);
+        x.due(30, "of", 0, 4);
+        x.due(15, "of", 1, 4);
+        x.due(2 + 45, "count", 6);
+        x.due(45, "count", 9);
+        x.dueLetters(6, 1, record);
+        x.due(NONE, "row", 7, OUTPUT, 15 + 15);
+        x.does(6, "a1;s60;s60;s60;m;s60;");
+        x.due(5, "count", 3);
+        x.due(NONE, "row", 7, OUTPUT, 60 + 30);
+        int itemsOf31 = 0;
+        for (int item : x.row(7, OUTPUT)) {
+            itemsOf31 += item == 31 ? 1 : 0;
+        }
+        Sentence.due("how often 31 is put out", itemsOf31, 4);
+    }
+
     static void noRoomAsLongAsARecordHas6() {
         Sentence.of(8, "(perhaps more than 6)");
         Probe x = Probe.net(LONG_RECORD + "f;");
